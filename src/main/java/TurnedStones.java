@@ -14,7 +14,7 @@ public final class TurnedStones {
     private static final int ROWS = 6, ROW_SIZE = 60, TEXTS = 4, TEXT_SIZE = 80;
     private static final int LAWS = 4, LAW_SIZE = 3, LAW_SETS = 1 << LAWS, WORDS = 8, SIDES = 4, ENDS = 2;
     private static final int STONES = 6, STATES = 1 << (2 * STONES), LONGS = STATES / 64;
-    private static final int PLACES = 3, ENGRAVINGS = 4, LAST_YEAR = 999, LAST_TOLD_YEAR = 9;
+    private static final int STREET_SIZE = 3, PLACES = 3, ENGRAVINGS = 4, LAST_YEAR = 999, LAST_TOLD_YEAR = 9;
     private static final int LONGEST_CONTEST = 12, LONGEST_LIFE = 17, CHANCES = 12;
 
     private final Table rows = new Table(ROWS, ROW_SIZE);
@@ -413,13 +413,14 @@ public final class TurnedStones {
         for (int k = 0; k < stones.number(); k++) {
             for (int what = 0; what <= 1 + SIDES; what++) h = 31 * h + stoneTells(k, what);
         }
-        h = book.words.fold(h, LAWS);
+        h = book.words.fold(h);
         h = records.fold(h);
         for (int k = 0; k < PLACES; k++) {
             if (keptYears[k] != MISSING) h = 31 * h + keptStates[k];
             h = 31 * h + keptYears[k];
         }
-        return texts.fold(rows.fold(h, ROWS), TEXTS);
+        h = rows.fold(h);
+        return texts.fold(h);
     }
 
     // ---- what several calls need
@@ -560,12 +561,13 @@ public final class TurnedStones {
             return knows(r) && i >= 0 && n <= sizes[r] - i;
         }
 
+        /** What is in a place; 0, which no town's text asks for, where there is none. */
         int get(int r, int i) {
-            return holds(r, i, 1) ? places[r][i] : 0;
+            return knows(r) && i >= 0 && i < sizes[r] ? places[r][i] : 0;
         }
 
         void set(int r, int i, int v) {
-            if (holds(r, i, 1)) places[r][i] = v;
+            if (knows(r) && i >= 0 && i < sizes[r]) places[r][i] = v;
         }
 
         void begin(int r, int n, int filler) {
@@ -597,9 +599,9 @@ public final class TurnedStones {
             return there;
         }
 
-        long fold(long start, int rows) {
+        long fold(long start) {
             long h = start;
-            for (int r = 0; r < rows && r < sizes.length; r++) h = foldPlaces(31 * h + sizes[r], r);
+            for (int r = 0; r < sizes.length; r++) h = foldPlaces(31 * h + sizes[r], r);
             return h;
         }
 
@@ -692,8 +694,12 @@ public final class TurnedStones {
         }
 
         int moved(int state, int k) {
+            return movedBy(state, k, step(k));
+        }
+
+        static int movedBy(int state, int k, int more) {
             int from = quarters(state, k);
-            int to = from + step(k) & 3;
+            int to = from + more & 3;
             return state + ((to - from) << (2 * k));
         }
 
@@ -711,12 +717,9 @@ public final class TurnedStones {
             return street < high ? street * wide + i : i * wide + street - high;
         }
 
-        static int opposite(int side, int end) {
-            return end == 0 ? side : side + 2;
-        }
-
+        /** The side that a stone without quarters shows to a street's end. */
         int firstSide(int street, int end) {
-            return opposite(street < high ? 0 : 1, end);
+            return (street < high ? 0 : 1) + 2 * end;
         }
 
         int sideRead(int state, int k, int street, int end) {
@@ -799,7 +802,7 @@ public final class TurnedStones {
         }
 
         private boolean readKind(int k) {
-            int kind = kindOf(sign());
+            int kind = kindOf(texts.get(text, place));
             if (kind == NONE) return false;
             into.kinds[k] = kind;
             place++;
@@ -840,13 +843,8 @@ public final class TurnedStones {
             }
         }
 
-        /** The sign at the place; behind the end one that nothing asks for. */
-        private int sign() {
-            return texts.get(text, place);
-        }
-
         private boolean readSign(int first, int last) {
-            int sign = sign();
+            int sign = texts.get(text, place);
             if (sign < first || sign > last) return false;
             value = sign - first;
             place++;
@@ -854,7 +852,7 @@ public final class TurnedStones {
         }
 
         private void skipBlanks() {
-            while (place < texts.size(text) && sign() == BLANK) place++;
+            while (place < texts.size(text) && texts.get(text, place) == BLANK) place++;
         }
     }
 
@@ -912,7 +910,7 @@ public final class TurnedStones {
         int leastWith(StateSet other) {
             for (int i = 0; i < LONGS; i++) {
                 long both = bits[i] & other.bits[i];
-                if (both != 0L) return 64 * i + Long.numberOfTrailingZeros(both);
+                if (both != 0L) return 64 * i + Long.bitCount(both - 1 & ~both);
             }
             return NONE;
         }
@@ -1197,7 +1195,7 @@ public final class TurnedStones {
         private final int[] years = new int[ENGRAVINGS];
         private final int[] streets = new int[ENGRAVINGS];
         private final int[] ends = new int[ENGRAVINGS];
-        private final Table words = new Table(ENGRAVINGS, LAW_SIZE);
+        private final Table words = new Table(ENGRAVINGS, STREET_SIZE);
 
         Records(Stones stones) {
             this.stones = stones;
@@ -1339,16 +1337,16 @@ public final class TurnedStones {
         private void spread(int states) {
             System.arraycopy(ways, 0, nextWays, 0, states);
             for (int s = 0; s < stones.number(); s++) {
-                if (stones.step(s) > 0) spreadTurned(states, s);
+                if (stones.step(s) > 0) spreadTurned(states, s, stones.step(s));
             }
             int[] before = ways;
             ways = nextWays;
             nextWays = before;
         }
 
-        private void spreadTurned(int states, int s) {
+        private void spreadTurned(int states, int s, int more) {
             for (int state = 0; state < states; state++) {
-                if (ways[state] != 0) nextWays[stones.moved(state, s)] += ways[state];
+                if (ways[state] != 0) nextWays[Stones.movedBy(state, s, more)] += ways[state];
             }
         }
 
