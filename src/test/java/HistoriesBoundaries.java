@@ -303,6 +303,22 @@ public final class HistoriesBoundaries {
             when 9 0 = 513 asked 897
             when 3 0 = 1 asked 1
             """);
+        Script.run(33, PLAIN + """
+            # a YEAR has one TURN: nine are due
+            when 8 0 = 0 asked 0
+            when 9 0 = 0 asked 512
+            town "g21 sabcd sabcd"
+            rule 0: 1 1
+            rule 1: 2 1
+            when 1 0 = 0 asked 0
+            when 2 0 = 0 asked 4
+            when 2 1 = 0 asked 0
+            when 3 1 = 0 asked 8
+            lays 0: 1 1
+            engrave 2 0 0 0
+            when 2 0 = 4 asked 4
+            when 3 0 = 4 asked 12
+            """);
     }
 
     private static void turnedNumbers() {
@@ -353,6 +369,23 @@ public final class HistoriesBoundaries {
             engrave 1 0 0 0
             turned 4 {1,2,3,4} = 0 asked 1
             turned 9 9 = 1 asked 1
+            """);
+        Script.run(34, """
+            # two STONES, each in one of two YEARS, then either, or none
+            town "g21 sabcd sabcd"
+            lays 0: 1 1
+            engrave 2 0 0 0
+            turned 2 {1,2} = 3 asked 0
+            turned 3 3 = 3 asked 1
+            turned 1 1 = 3 asked 1
+            lays 0: 1 0
+            engrave 1 0 0 0
+            turned 2 1 = 1 asked 0
+            turned 2 2 = 2 asked 0
+            lose 0
+            lays 0: 0 1
+            engrave 9 0 0 0
+            turned 9 {1,9} = 3 asked 1
             """);
     }
 

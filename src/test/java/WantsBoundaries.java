@@ -174,6 +174,11 @@ public final class WantsBoundaries {
             # a missing ROW stays missing
             way 2 4 = NONE
             tear 4 = NOTHING
+            # nor is it laid by an older way
+            turn 0
+            way 1 3 = 3 holds 3: 3x0
+            way 2 0 = NONE holds 0: 5 6
+            way 2 3 = NONE holds 3: 3x0
             """);
         Script.run(24, """
             # without STONES
