@@ -17,7 +17,9 @@ import java.util.Set;
  *   at 0 1 = 1 asked 7          what asked() tells then
  *   share 1 = 2 told 1 4        what upper() and lower() tell then
  *   way 1 2 = 1 holds 2: 0      what a row has then
+ *   digest = fold 8x0 "ab"      the answer is 17 and these, folded as digest() tells
  *   row {-1,6} 3 = BAD          the line once for each of these
+ *   tear 0 = 1 ; row 0 2 = 2    several lines in one, for the sake of braces
  *   write 1 "g11 sabcd"         text 1 is made and put
  *   town "g11 sabcd"            text 0 is made and put, and it is the town
  *   lays 2: 1 3x0 MAX           row 2 is made and laid
@@ -95,9 +97,15 @@ final class Script {
         for (String raw : lines.split("\n")) {
             String line = raw.strip();
             if (line.isEmpty() || line.startsWith("#")) continue;
-            for (String one : spread(line)) script.runLine(one);
+            for (String one : spread(line)) {
+                for (String part : one.split(" ; ")) script.runLine(part.strip());
+            }
         }
         script.duePrepared();
+    }
+
+    static int wrong() {
+        return wrong;
     }
 
     /** Tells how it went, and ends the machine if something went wrong. */
@@ -211,7 +219,7 @@ final class Script {
         Call c = callOf(line.substring(0, line.indexOf(" = ")).split("\\s+"));
         String[] due = line.substring(line.indexOf(" = ") + 3).split("\\s+");
         int finding = FINDINGS.indexOf(due[0]);
-        long want = finding > 0 ? FINDING : NUMBERS.containsKey(due[0]) ? NUMBERS.get(due[0]) : Long.parseLong(due[0]);
+        long want = finding > 0 ? FINDING : answer(due);
         if (finding > 0) {
             latest = finding;
             found[finding]++;
@@ -226,6 +234,24 @@ final class Script {
         made.add(c);
         prepared.add(false);
         if (line.contains(" holds ")) holds(line.substring(line.indexOf(" holds ") + 7));
+    }
+
+    private static long answer(String[] due) {
+        if (NUMBERS.containsKey(due[0])) return NUMBERS.get(due[0]);
+        return due[0].equals("fold") ? folded(due) : Long.parseLong(due[0]);
+    }
+
+    private static long folded(String[] due) {
+        long h = 17;
+        for (int i = 1; i < due.length; i++) {
+            List<Integer> values = due[i].startsWith("\"") ? signs(quoted(due[i])) : numbers(due[i]);
+            for (int v : values) h = 31 * h + v;
+        }
+        return h;
+    }
+
+    private static List<Integer> signs(String text) {
+        return text.chars().boxed().toList();
     }
 
     private void dueFindings(Counted x) {
